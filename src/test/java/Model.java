@@ -7,15 +7,15 @@ import java.util.List;
  * one row of levels, copied whenever something is tried, and sorted, swapped and counted outright.
  */
 final class Model {
-    int flights = 4;
-    int steps = 8;
-    int hours = 0;
-    int sun = 1;
-    long gone = 0;
-    int[] levels = new int[32];
-    int[] edges = filled(8);
-    List<int[]> deeds = new ArrayList<>();
-    List<int[]> marks = new ArrayList<>();
+    private int flights = 4;
+    private int steps = 8;
+    private int hours = 0;
+    private int sun = 1;
+    private long gone = 0;
+    private int[] levels = new int[32];
+    private int[] edges = filled(8);
+    private final List<int[]> deeds = new ArrayList<>();
+    private final List<int[]> marks = new ArrayList<>();
 
     private static int[] filled(int steps) {
         int[] edges = new int[steps];
@@ -239,9 +239,37 @@ final class Model {
         return before;
     }
 
+    int flights() {
+        return flights;
+    }
+
+    int steps() {
+        return steps;
+    }
+
+    int hours() {
+        return hours;
+    }
+
+    int sun() {
+        return sun;
+    }
+
     int edgeOf(int s) {
         index(isStep(s));
         return edges[s];
+    }
+
+    int marks() {
+        return marks.size();
+    }
+
+    int deeds() {
+        return deeds.size();
+    }
+
+    long gone() {
+        return gone;
     }
 
     int levelAt(int f, int s) {

@@ -1,3 +1,6 @@
+import java.lang.reflect.InvocationTargetException;
+import java.util.Arrays;
+
 /** Long runs of calls drawn by a fixed rule: the class answers each as the model does. */
 final class ModelTest {
     private static final int RUNS = 150;
@@ -33,8 +36,8 @@ final class ModelTest {
         for (int call = 0; call < CALLS; call++) {
             String name = drawName(call, many);
             int[] x = drawArguments(name, model);
-            String what = "run " + run + ", call " + call + ": " + name + java.util.Arrays.toString(x);
-            Check.dueText(what, answer(() -> askStairs(stairs, name, x)), answer(() -> askModel(model, name, x)));
+            String what = "run " + run + ", call " + call + ": " + name + Arrays.toString(x);
+            Check.dueText(what, answer(stairs, name, x), answer(model, name, x));
         }
         Check.due("run " + run + ": digest()", stairs.digest(), model.digest());
     }
@@ -51,10 +54,10 @@ final class ModelTest {
 
     /** Mostly numbers that fit, sometimes ones that do not. */
     private static int[] drawArguments(String name, Model model) {
-        int f = number(0, model.flights - 1);
-        int s = number(0, model.steps - 1);
-        int f2 = below(3) == 0 ? number(0, model.flights - 1) : number(f, model.flights - 1);
-        int s2 = below(3) == 0 ? number(0, model.steps - 1) : number(s, model.steps - 1);
+        int f = number(0, model.flights() - 1);
+        int s = number(0, model.steps() - 1);
+        int f2 = below(3) == 0 ? number(0, model.flights() - 1) : number(f, model.flights() - 1);
+        int s2 = below(3) == 0 ? number(0, model.steps() - 1) : number(s, model.steps() - 1);
         switch (name) {
             case "lay": return new int[] {number(1, 8), number(1, 16)};
             case "rain": return new int[] {f, s, number(-99, 99)};
@@ -62,12 +65,12 @@ final class ModelTest {
             case "bail": return new int[] {f, below(2) == 0 ? number(1, 99) : number(1, 999)};
             case "setSun": return new int[] {number(0, 9)};
             case "setEdge": return new int[] {s, below(2) == 0 ? number(0, 99) : number(0, 999)};
-            case "back": case "changedSince": return new int[] {number(0, model.marks.size() - 1)};
+            case "back": case "changedSince": return new int[] {number(0, model.marks() - 1)};
             case "firstReaching": return new int[] {f, number(-300, 300)};
             case "dryAt": return new int[] {number(0, model.dry() - 1)};
-            case "levelInOrder": return new int[] {number(0, model.levels.length - 1)};
+            case "levelInOrder": return new int[] {number(0, model.flights() * model.steps() - 1)};
             case "upTo": return new int[] {number(-100, 100)};
-            case "swap": case "alike": return new int[] {f, number(0, model.flights - 1)};
+            case "swap": case "alike": return new int[] {f, number(0, model.flights() - 1)};
             case "turn": case "flightSum": case "bestRun": case "longestDry": case "highestAt": case "bestSwap": return new int[] {f};
             case "edgeOf": case "stepSum": return new int[] {s};
             case "bestEdge": return new int[] {s, number(1, 40)};
@@ -79,119 +82,20 @@ final class ModelTest {
         }
     }
 
-    private static Object askStairs(PuddleStairs p, String name, int[] x) {
-        switch (name) {
-            case "lay": return p.lay(x[0], x[1]);
-            case "rain": return p.rain(x[0], x[1], x[2]);
-            case "splash": return p.splash(x[0], x[1], x[2], x[3], x[4]);
-            case "swap": return p.swap(x[0], x[1]);
-            case "turn": return p.turn(x[0]);
-            case "bail": return p.bail(x[0], x[1]);
-            case "passHours": return p.passHours(x[0]);
-            case "mark": return p.mark();
-            case "back": return p.back(x[0]);
-            case "undo": return p.undo();
-            case "setSun": return p.setSun(x[0]);
-            case "setEdge": return p.setEdge(x[0], x[1]);
-            case "flights": return p.flights();
-            case "steps": return p.steps();
-            case "hours": return p.hours();
-            case "sun": return p.sun();
-            case "edgeOf": return p.edgeOf(x[0]);
-            case "marks": return p.marks();
-            case "deeds": return p.deeds();
-            case "gone": return p.gone();
-            case "levelAt": return p.levelAt(x[0], x[1]);
-            case "sumOf": return p.sumOf(x[0], x[1], x[2], x[3]);
-            case "sumTo": return p.sumTo(x[0], x[1]);
-            case "flightSum": return p.flightSum(x[0]);
-            case "stepSum": return p.stepSum(x[0]);
-            case "total": return p.total();
-            case "firstReaching": return p.firstReaching(x[0], x[1]);
-            case "bestRun": return p.bestRun(x[0]);
-            case "dryIn": return p.dryIn(x[0], x[1], x[2], x[3]);
-            case "dry": return p.dry();
-            case "dryAt": return p.dryAt(x[0]);
-            case "longestDry": return p.longestDry(x[0]);
-            case "driestFlight": return p.driestFlight();
-            case "lowestIn": return p.lowestIn(x[0], x[1], x[2], x[3]);
-            case "highestAt": return p.highestAt(x[0]);
-            case "upTo": return p.upTo(x[0]);
-            case "levelInOrder": return p.levelInOrder(x[0]);
-            case "outOfOrder": return p.outOfOrder();
-            case "alike": return p.alike(x[0], x[1]);
-            case "changedSince": return p.changedSince(x[0]);
-            case "totalIn": return p.totalIn(x[0]);
-            case "goneIn": return p.goneIn(x[0]);
-            case "hoursUntilDry": return p.hoursUntilDry();
-            case "sunWanted": return p.sunWanted(x[0]);
-            case "bestEdge": return p.bestEdge(x[0], x[1]);
-            case "bestSwap": return p.bestSwap(x[0]);
-            case "meanLevel": return p.meanLevel();
-            case "digest": return p.digest();
-            default: throw new UnsupportedOperationException(name);
+    /** Calls a method of the class or of the model by its name. */
+    private static String answer(Object asked, String name, int[] arguments) {
+        Class<?>[] types = new Class<?>[arguments.length];
+        Object[] values = new Object[arguments.length];
+        for (int place = 0; place < arguments.length; place++) {
+            types[place] = int.class;
+            values[place] = arguments[place];
         }
-    }
-
-    private static Object askModel(Model m, String name, int[] x) {
-        switch (name) {
-            case "lay": return m.lay(x[0], x[1]);
-            case "rain": return m.rain(x[0], x[1], x[2]);
-            case "splash": return m.splash(x[0], x[1], x[2], x[3], x[4]);
-            case "swap": return m.swap(x[0], x[1]);
-            case "turn": return m.turn(x[0]);
-            case "bail": return m.bail(x[0], x[1]);
-            case "passHours": return m.passHours(x[0]);
-            case "mark": return m.mark();
-            case "back": return m.back(x[0]);
-            case "undo": return m.undo();
-            case "setSun": return m.setSun(x[0]);
-            case "setEdge": return m.setEdge(x[0], x[1]);
-            case "flights": return m.flights;
-            case "steps": return m.steps;
-            case "hours": return m.hours;
-            case "sun": return m.sun;
-            case "edgeOf": return m.edgeOf(x[0]);
-            case "marks": return m.marks.size();
-            case "deeds": return m.deeds.size();
-            case "gone": return m.gone;
-            case "levelAt": return m.levelAt(x[0], x[1]);
-            case "sumOf": return m.sumOf(x[0], x[1], x[2], x[3]);
-            case "sumTo": return m.sumTo(x[0], x[1]);
-            case "flightSum": return m.flightSum(x[0]);
-            case "stepSum": return m.stepSum(x[0]);
-            case "total": return m.total();
-            case "firstReaching": return m.firstReaching(x[0], x[1]);
-            case "bestRun": return m.bestRun(x[0]);
-            case "dryIn": return m.dryIn(x[0], x[1], x[2], x[3]);
-            case "dry": return m.dry();
-            case "dryAt": return m.dryAt(x[0]);
-            case "longestDry": return m.longestDry(x[0]);
-            case "driestFlight": return m.driestFlight();
-            case "lowestIn": return m.lowestIn(x[0], x[1], x[2], x[3]);
-            case "highestAt": return m.highestAt(x[0]);
-            case "upTo": return m.upTo(x[0]);
-            case "levelInOrder": return m.levelInOrder(x[0]);
-            case "outOfOrder": return m.outOfOrder();
-            case "alike": return m.alike(x[0], x[1]);
-            case "changedSince": return m.changedSince(x[0]);
-            case "totalIn": return m.totalIn(x[0]);
-            case "goneIn": return m.goneIn(x[0]);
-            case "hoursUntilDry": return m.hoursUntilDry();
-            case "sunWanted": return m.sunWanted(x[0]);
-            case "bestEdge": return m.bestEdge(x[0], x[1]);
-            case "bestSwap": return m.bestSwap(x[0]);
-            case "meanLevel": return m.meanLevel();
-            case "digest": return m.digest();
-            default: throw new UnsupportedOperationException(name);
-        }
-    }
-
-    private static String answer(java.util.function.Supplier<Object> call) {
         try {
-            return call.get().toString();
-        } catch (RuntimeException e) {
-            return "throws." + e.getClass().getSimpleName();
+            return asked.getClass().getDeclaredMethod(name, types).invoke(asked, values).toString();
+        } catch (InvocationTargetException e) {
+            return "throws." + e.getCause().getClass().getSimpleName();
+        } catch (ReflectiveOperationException e) {
+            throw new IllegalStateException(name + Arrays.toString(arguments), e);
         }
     }
 
