@@ -11,6 +11,7 @@ final class StaircaseTest {
         promise19Marks();
         promise20Deeds();
         promise21Gone();
+        theGreatestStaircase();
         Check.end();
     }
 
@@ -88,5 +89,33 @@ final class StaircaseTest {
         }
         stairs.goneIn(1);
         Check.due("gone() behind goneIn", stairs.gone(), 147);
+    }
+
+    /** 8 flights of 16 steps: each call that goes over all puddles stops at the last one. */
+    private static void theGreatestStaircase() {
+        PuddleStairs stairs = new PuddleStairs();
+        stairs.lay(8, 16);
+        stairs.mark();
+        Check.due("splash over all", stairs.splash(0, 0, 7, 15, 9), 128);
+        Check.due("bail(7, 999)", stairs.bail(7, 999), 144);
+        Check.due("changedSince(0)", stairs.changedSince(0), 112);
+        Check.due("dry()", stairs.dry(), 16);
+        Check.due("dryAt(15)", stairs.dryAt(15), 127);
+        Check.due("upTo(9)", stairs.upTo(9), 128);
+        Check.due("levelInOrder(127)", stairs.levelInOrder(127), 9);
+        Check.due("outOfOrder()", stairs.outOfOrder(), 112 * 16);
+        Check.due("flightSum(6)", stairs.flightSum(6), 144);
+        Check.due("stepSum(15)", stairs.stepSum(15), 63);
+        Check.due("sumTo(7, 15)", stairs.sumTo(7, 15), 1008);
+        Check.due("totalIn(8)", stairs.totalIn(8), 112);
+        Check.due("hoursUntilDry()", stairs.hoursUntilDry(), 9);
+        Check.due("bestSwap(7)", stairs.bestSwap(7), 0);
+        Check.dueDouble("meanLevel()", stairs.meanLevel(), 7.875);
+        stairs.rain(7, 15, 99);
+        Check.due("passHours(40)", stairs.passHours(40), 48);
+        Check.due("turn(7)", stairs.turn(7), 2);
+        Check.due("back(0)", stairs.back(0), 1);
+        Check.due("undo()", stairs.undo(), 1);
+        Check.due("levelAt(7, 0)", stairs.levelAt(7, 0), 11);
     }
 }

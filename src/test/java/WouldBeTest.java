@@ -123,6 +123,7 @@ final class WouldBeTest {
         Check.dueDouble("meanLevel() of a new object", new PuddleStairs().meanLevel(), 0.0);
         Check.dueDouble("meanLevel()", Check.laid(new int[][] {{1, 2}, {3, 5}}).meanLevel(), 2.75);
         Check.dueDouble("meanLevel() of three", Check.laid(new int[][] {{1, 0, 0}}).meanLevel(), 1.0 / 3.0);
+        Check.dueDouble("meanLevel() of one", Check.laid(new int[][] {{7}}).meanLevel(), 7.0);
         Check.dueDouble("meanLevel() below 0", Check.laid(new int[][] {{-1, -4}}).meanLevel(), -2.5);
         Check.dueDouble("meanLevel() of 1 and -1", Check.laid(new int[][] {{1, -1}}).meanLevel(), 0.0);
     }
