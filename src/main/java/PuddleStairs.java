@@ -387,7 +387,8 @@ public final class PuddleStairs {
         checkNumber(hours, 1, MAX_HOURS);
         int best = 0;
         int least = Integer.MAX_VALUE;
-        for (int edge = 0; edge <= HIGHEST_TRIED_EDGE; edge += TRIED_EDGE_GAP) {
+        // Less than nothing never goes over: so the first edge with 0 is the one.
+        for (int edge = 0; edge <= HIGHEST_TRIED_EDGE && least > 0; edge += TRIED_EDGE_GAP) {
             trial.copyFrom(water);
             trial.edges[step] = edge;
             int over = trial.flowFor(hours);
@@ -648,21 +649,24 @@ public final class PuddleStairs {
         }
 
         private void dryUp() {
-            for (int number = 0; number < puddleCount(); number++) {
-                if (levels[number] > 0) {
-                    levels[number] = Math.max(0, levels[number] - sunNow);
+            int count = puddleCount();
+            for (int number = 0; number < count; number++) {
+                int level = levels[number];
+                if (level > 0) {
+                    levels[number] = Math.max(0, level - sunNow);
                 }
             }
         }
 
+        /** Answers what runs over the last edge: what is left running behind the last puddle. */
         private int runDown() {
             int running = 0;
             for (int flight = 0; flight < flightCount; flight++) {
+                int first = numberOf(flight, 0);
                 for (int step = 0; step < stepCount; step++) {
-                    int number = numberOf(flight, step);
-                    int level = levels[number] + running;
+                    int level = levels[first + step] + running;
                     running = Math.max(0, level - edges[step]);
-                    levels[number] = level - running;
+                    levels[first + step] = level - running;
                 }
             }
             return running;
