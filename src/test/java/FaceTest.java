@@ -70,7 +70,7 @@ final class FaceTest {
         theClass();
         theMethods();
         nothingElse();
-        noNameTwice();
+        noPrivateNameIsPublic();
         Check.end();
     }
 
@@ -103,14 +103,18 @@ final class FaceTest {
         }
     }
 
-    private static void noNameTwice() {
+    private static void noPrivateNameIsPublic() {
         TreeSet<String> names = new TreeSet<>();
-        int methods = 0;
         for (Method method : PuddleStairs.class.getDeclaredMethods()) {
-            names.add(method.getName());
-            methods++;
+            if (Modifier.isPublic(method.getModifiers())) {
+                names.add(method.getName());
+            }
         }
-        Check.due("names of methods", names.size(), methods);
+        for (Method method : PuddleStairs.class.getDeclaredMethods()) {
+            if (Modifier.isPrivate(method.getModifiers())) {
+                Check.due(method.getName() + " is the name of a public one too", names.contains(method.getName()) ? 1 : 0, 0);
+            }
+        }
     }
 
     private static String signature(Method method) {

@@ -1,10 +1,10 @@
-import java.lang.reflect.InvocationTargetException;
 import java.util.Arrays;
 
 /** Long runs of calls drawn by a fixed rule: the class answers each as the model does. */
 final class ModelTest {
     private static final int RUNS = 150;
-    private static final int CALLS = 512;
+    /** One less than an object is promised for: the digest at the end is a call too. */
+    private static final int CALLS = 511;
     private static final String[] DEEDS = {
         "rain", "rain", "rain", "rain", "splash", "splash", "splash", "swap", "turn", "bail", "passHours", "passHours",
         "mark", "back", "undo", "undo", "setSun", "setEdge",
@@ -37,7 +37,7 @@ final class ModelTest {
             String name = drawName(call, many);
             int[] x = drawArguments(name, model);
             String what = "run " + run + ", call " + call + ": " + name + Arrays.toString(x);
-            Check.dueText(what, answer(stairs, name, x), answer(model, name, x));
+            Check.dueText(what, Calls.answer(stairs, name, x), Calls.answer(model, name, x));
         }
         Check.due("run " + run + ": digest()", stairs.digest(), model.digest());
     }
@@ -79,23 +79,6 @@ final class ModelTest {
             case "levelAt": case "sumTo": return new int[] {f, s};
             case "sumOf": case "dryIn": case "lowestIn": return new int[] {f, s, f2, s2};
             default: return new int[0];
-        }
-    }
-
-    /** Calls a method of the class or of the model by its name. */
-    private static String answer(Object asked, String name, int[] arguments) {
-        Class<?>[] types = new Class<?>[arguments.length];
-        Object[] values = new Object[arguments.length];
-        for (int place = 0; place < arguments.length; place++) {
-            types[place] = int.class;
-            values[place] = arguments[place];
-        }
-        try {
-            return asked.getClass().getDeclaredMethod(name, types).invoke(asked, values).toString();
-        } catch (InvocationTargetException e) {
-            return "throws." + e.getCause().getClass().getSimpleName();
-        } catch (ReflectiveOperationException e) {
-            throw new IllegalStateException(name + Arrays.toString(arguments), e);
         }
     }
 
