@@ -230,9 +230,9 @@ public final class PuddleStairs {
 
     public long bestRun(int flight) throws IndexOutOfBoundsException {
         checkFlight(flight);
-        long best = Long.MIN_VALUE;
-        long endingHere = 0;
-        for (int step = 0; step < water.stepCount; step++) {
+        long best = water.level(flight, 0);
+        long endingHere = best;
+        for (int step = 1; step < water.stepCount; step++) {
             endingHere = Math.max(0, endingHere) + water.level(flight, step);
             best = Math.max(best, endingHere);
         }
@@ -291,7 +291,7 @@ public final class PuddleStairs {
 
     public int lowestIn(int fromFlight, int fromStep, int toFlight, int toStep) throws IndexOutOfBoundsException, IllegalArgumentException {
         checkPart(fromFlight, fromStep, toFlight, toStep);
-        int lowest = Integer.MAX_VALUE;
+        int lowest = water.level(fromFlight, fromStep);
         for (int flight = fromFlight; flight <= toFlight; flight++) {
             for (int step = fromStep; step <= toStep; step++) {
                 lowest = Math.min(lowest, water.level(flight, step));
@@ -317,7 +317,7 @@ public final class PuddleStairs {
 
     public int levelInOrder(int place) throws IndexOutOfBoundsException {
         checkIndex(place, water.puddleCount());
-        int found = Integer.MAX_VALUE;
+        int found = water.highest();
         for (int number = 0; number < water.puddleCount(); number++) {
             int level = water.levels[number];
             if (level < found && water.upToLevel(level) > place) {
@@ -386,12 +386,10 @@ public final class PuddleStairs {
         checkStep(step);
         checkNumber(hours, 1, MAX_HOURS);
         int best = 0;
-        int least = Integer.MAX_VALUE;
+        int least = goneWithEdge(step, 0, hours);
         // Less than nothing never goes over: so the first edge with 0 is the one.
-        for (int edge = 0; edge <= HIGHEST_TRIED_EDGE && least > 0; edge += TRIED_EDGE_GAP) {
-            trial.copyFrom(water);
-            trial.edges[step] = edge;
-            int over = trial.flowFor(hours);
+        for (int edge = TRIED_EDGE_GAP; edge <= HIGHEST_TRIED_EDGE && least > 0; edge += TRIED_EDGE_GAP) {
+            int over = goneWithEdge(step, edge, hours);
             if (over < least) {
                 least = over;
                 best = edge;
@@ -430,6 +428,12 @@ public final class PuddleStairs {
         d = digestedFlights(d);
         d = digestedSteps(d);
         return digestedMarks(d);
+    }
+
+    private int goneWithEdge(int step, int edge, int hours) {
+        trial.copyFrom(water);
+        trial.edges[step] = edge;
+        return trial.flowFor(hours);
     }
 
     private static long digested(long d, long x) {
@@ -630,6 +634,14 @@ public final class PuddleStairs {
             return count;
         }
 
+        int highest() {
+            int highest = levels[0];
+            for (int number = 1; number < puddleCount(); number++) {
+                highest = Math.max(highest, levels[number]);
+            }
+            return highest;
+        }
+
         boolean allDry() {
             return upToLevel(0) == puddleCount();
         }
@@ -759,8 +771,8 @@ public final class PuddleStairs {
 
         int bestPartner(int flight) {
             int best = 0;
-            int fewest = Integer.MAX_VALUE;
-            for (int other = 0; other < flightCount; other++) {
+            int fewest = outWithSwap(flight, 0);
+            for (int other = 1; other < flightCount; other++) {
                 int count = outWithSwap(flight, other);
                 if (count < fewest) {
                     fewest = count;
